@@ -155,7 +155,7 @@ public final class PledgeTips {
             return INVALID_ARGUMENT;
         }
         for (int p = 0; p < MAX_PLEDGES; p++) {
-            keys[p] = now.hasPledge(p) ? keyOf(order, p) : Long.MAX_VALUE;
+            keys[p] = keyOf(order, p);
         }
         for (int p = 0; p < MAX_PLEDGES; p++) {
             if (now.hasPledge(p) && keysBelow(keys[p]) == place) {
@@ -296,7 +296,7 @@ public final class PledgeTips {
     private int keysBelow(long key) {
         int below = 0;
         for (int p = 0; p < MAX_PLEDGES; p++) {
-            if (keys[p] < key) {
+            if (now.hasPledge(p) && keys[p] < key) {
                 below++;
             }
         }
@@ -576,7 +576,7 @@ public final class PledgeTips {
         /** The earliest pledge behind which the project has its goal; it must have it. */
         private int tip(int project) {
             int tip = NOT_FOUND;
-            int tipTurn = Integer.MAX_VALUE;
+            int tipTurn = place.made;
             for (int p = 0; p < MAX_PLEDGES; p++) {
                 if (place.hasPledge(p) && place.turn[p] < tipTurn) {
                     int sofar = place.pledgesUpTo(place.turn[p]);

@@ -16,6 +16,7 @@ final class PromiseTests {
         pledgeErrors();
         pledgeNumbers();
         conditions();
+        twelveWaves();
         withdraw();
         callIn();
         calledCountAsMembers();
@@ -29,6 +30,7 @@ final class PromiseTests {
         orderAt();
         count();
         undo();
+        undoOfEachChange();
         type();
         clearText();
         faultOfForm();
@@ -235,6 +237,10 @@ final class PromiseTests {
         due("kind 3: in the wave behind", x.pledgeOf(0, 7), 2);
         x.pledge(3, 0, 5, 0, 0);
         due("kind 3: any project does", x.count(4), 7);
+        x.pledge(1, 0, 5, 3, 0);
+        due("kind 3: person 0", x.count(4), 15);
+        x.withdraw(0);
+        due("kind 3: person 0 is gone", x.count(4), 6);
 
         x = with(4, 10, 20);
         x.pledge(0, 0, 4, 4, 1);
@@ -244,6 +250,30 @@ final class PromiseTests {
         due("kind 4: its pledges that fall do not count", x.count(4), 2);
         x.pledge(2, 0, 6, 0, 0);
         due("kind 4: both goals by one another", x.count(4), 15);
+    }
+
+    /** Each one falls in a wave of its own: one more than number 0 asks for, then 11 others, 10 others and so on. */
+    private static void twelveWaves() {
+        PledgeTips x = with(1, 10, 10);
+        x.pledge(0, 0, 1, 1, 999);
+        for (int i = 1; i < 12; i++) {
+            x.pledge(0, 0, 1, 2, 12 - i);
+        }
+        due("twelve waves", x.count(5), 12);
+        due("none stands", x.count(4), 0);
+        due("none is left", x.setOf(4095, 2), 0);
+        due("in the first wave", x.setOf(4095, 1), 1);
+        for (int i = 0; i < 12; i++) {
+            due("7: the wave of " + i, x.pledgeOf(i, 7), i + 1);
+            due("12: later waves first, place " + i, x.orderAt(1, i), 11 - i);
+        }
+        due("6: not its goal", x.callIn(0), IMPOSSIBLE);
+        x.withdraw(0);
+        due("only the first one was to blame for none", x.count(5), 11);
+        x.pledge(0, 0, 1, 0, 0);
+        due("12: those that stand by their numbers", x.orderAt(1, 11), 11);
+        due("all stand", x.count(4), 4095);
+        due("6: the goal", x.callIn(0), 12);
     }
 
     /** 0 holds 1, 0 and 1 together hold 2, and 2 holds 3; all for project 0, which needs each of them. */
@@ -331,6 +361,8 @@ final class PromiseTests {
         for (int what = 0; what <= 9; what++) {
             due("7: pledgeOf(3, " + what + ")", x.pledgeOf(3, what), last[what]);
         }
+        due("7: person", x.pledgeOf(0, 0), 2);
+        due("7: project", x.pledgeOf(1, 1), 0);
         due("7: what -1", x.pledgeOf(3, -1), INVALID);
         due("7: what 10", x.pledgeOf(3, 10), INVALID);
         due("7: pledge -1", x.pledgeOf(-1, 0), INVALID);
@@ -403,6 +435,12 @@ final class PromiseTests {
         x.pledge(0, 0, 10, 0, 0);
         x.callIn(0);
         due("8: not ahead of the turn of the called one", x.projectOf(1, 7), 1);
+        x.withdraw(0);
+        x.pledge(0, 1, 4, 0, 0);
+        x.pledge(1, 1, 4, 0, 0);
+        x.withdraw(0);
+        x.pledge(0, 1, 4, 0, 0);
+        due("8: number 0 is the last one", x.projectOf(1, 7), 0);
     }
 
     private static void push() {
@@ -426,6 +464,11 @@ final class PromiseTests {
         PledgeTips y = with(8, 999);
         y.pledge(0, 0, 998, 3, 7);
         due("8: someone else than all persons", y.projectOf(0, 9), 999);
+        y.withdraw(0);
+        y.pledge(1, 0, 998, 3, 0);
+        due("8: nor is it person 0", y.projectOf(0, 9), 999);
+        y.withdraw(0);
+        y.pledge(0, 0, 998, 3, 7);
         due("8: it leaves nothing behind", y.count(4), 0);
         due("8: it is no pledge", y.count(2), 1);
         for (int i = 1; i < 12; i++) {
@@ -544,6 +587,9 @@ final class PromiseTests {
         }
         due("13: count(-1)", x.count(-1), INVALID);
         due("13: count(13)", x.count(13), INVALID);
+        x.pledge(3, 0, 15, 0, 0);
+        due("13: both goals", x.count(7), 2);
+        x.undo();
         x.callIn(1);
         int[] called = {2, 4, 4, 3, 17, 2, 2, 1, 6, 1, 5, 4, 2};
         for (int what = 0; what <= 12; what++) {
@@ -583,6 +629,63 @@ final class PromiseTests {
         due("14: not withdrawn", x.count(9), 0);
         due("14: the pledge is there", x.pledgeOf(0, 2), 3);
         due("14: undo is no change itself", x.undo(), 1);
+    }
+
+    private static void duePledge(String what, PledgeTips x, int... values) {
+        for (int i = 0; i < values.length; i++) {
+            due(what + ", pledgeOf(0, " + i + ")", x.pledgeOf(0, i == 5 ? 8 : i), values[i]);
+        }
+    }
+
+    private static void undoOfEachChange() {
+        PledgeTips x = with(3, 10, 20);
+        x.pledge(1, 1, 5, 3, 2);
+        x.withdraw(0);
+        x.pledge(2, 0, 6, 1, 9);
+        duePledge("14: the new one", x, 2, 0, 6, 1, 9, 1);
+        x.undo();
+        due("14: none", x.pledgeOf(0, 0), INVALID);
+        x.undo();
+        duePledge("14: the old one", x, 1, 1, 5, 3, 2, 0);
+        type(x, "w0;p2,0,6,1,9;g7;");
+        due("14: tried only", x.fault(0), MISSING);
+        duePledge("14: tried only", x, 1, 1, 5, 3, 2, 0);
+        x.play();
+        duePledge("14: played", x, 2, 0, 6, 1, 9, 1);
+        x.undo();
+        duePledge("14: play undone", x, 1, 1, 5, 3, 2, 0);
+        due("14: play undone, projects", x.count(0), 2);
+
+        x = with(1, 999);
+        for (int i = 0; i < 11; i++) {
+            x.pledge(0, 0, 1 + i, 0, 0);
+        }
+        for (int left = 3; left >= 0; left--) {
+            due("14: undo behind many changes", x.undo(), left);
+            due("14: pledges left with " + left, x.count(2), 7 + left);
+            due("14: the last one", x.pledgeOf(6 + left, 2), 7 + left);
+        }
+        due("14: no more than four", x.undo(), IMPOSSIBLE);
+
+        x = with(2);
+        x.undo();
+        due("14: undo of a person", x.count(1), 1);
+        x.project(7);
+        x.pledge(0, 0, 7, 0, 0);
+        x.undo();
+        due("14: undo of a pledge", x.count(2), 0);
+        x.pledge(0, 0, 8, 0, 0);
+        x.callIn(0);
+        x.undo();
+        due("14: undo of callIn", x.count(3), 1);
+        x.withdraw(0);
+        x.undo();
+        due("14: undo of withdraw", x.pledgeOf(0, 2), 8);
+        x.undo();
+        x.undo();
+        due("14: undo of a project", x.count(0), 0);
+        x.project(9);
+        due("14: another one", x.projectOf(0, 0), 9);
     }
 
     private static void type() {

@@ -15,7 +15,7 @@ final class RuleTests {
             + " personOf(int,int) play() pledge(int,int,int,int,int) pledgeOf(int,int) project(int)"
             + " projectOf(int,int) setOf(int,int) standing(int) type(int) undo() withdraw(int)";
     private static final String[] FORBIDDEN_WORDS = {"throw", "throws", "try", "catch", "finally", "synchronized",
-        "assert", "import", "package", "protected", "double", "float", "Object", "System.out", "Exception", "Exact"};
+        "assert", "import", "package", "protected", "double", "float", "Object", "System.out", "Exception", "Exact", "MAX_VALUE"};
     private static final String[] FORBIDDEN_SIGNS = {"->", "::", "\"", "@"};
     private static final int[] EXTREMES = {Integer.MIN_VALUE, Integer.MIN_VALUE + 1, -4096, -33, -32, -31, -2, -1, 0, 1, 2, 3,
         4, 5, 7, 8, 9, 10, 11, 12, 13, 31, 32, 33, 63, 64, 80, 999, 1000, 4095, 4096, 65535, 65536, Integer.MAX_VALUE};
