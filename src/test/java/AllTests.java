@@ -8,6 +8,10 @@ public final class AllTests {
 
     public static void main(String[] arguments) throws IOException {
         PromiseTests.run();
+        ArgumentTests.run();
+        TermsTests.run();
+        TextTests.run();
+        ChangeTests.run();
         ModelTests.run();
         RuleTests.run(Path.of(arguments[0]));
         Check.tellSum();

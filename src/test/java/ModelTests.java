@@ -136,11 +136,13 @@ final class ModelTests {
             int sign = below(400) == 0 ? between(20, 140) : commands.charAt(i);
             told("type(" + sign + ")", tips.type(sign), model.type(sign));
         }
-        for (int i = -1; i < 4; i++) {
+        for (int i = -1; i < 4 && made < CALLS; i++) {
             int what = i;
             told("fault(" + what + ")", tips.fault(what), model.fault(what));
         }
-        told("play()", tips.play(), model.play());
+        if (made < CALLS) {
+            told("play()", tips.play(), model.play());
+        }
     }
 
     private String commands() {
@@ -205,6 +207,8 @@ final class ModelTests {
         int set = maybeOdd(below(20) == 0 ? below(4096) : all & below(4096));
         int what = between(-1, 3);
         told("standing(" + set + ")", tips.standing(set), model.world.standing(set));
-        told("setOf(" + set + ", " + what + ")", tips.setOf(set, what), model.world.setOf(set, what));
+        if (made < CALLS) {
+            told("setOf(" + set + ", " + what + ")", tips.setOf(set, what), model.world.setOf(set, what));
+        }
     }
 }

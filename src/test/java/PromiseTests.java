@@ -1,10 +1,5 @@
 /** Each promise of the document by calls whose answers were worked out by hand. */
-final class PromiseTests {
-    private static final int INVALID = -1;
-    private static final int IMPOSSIBLE = -2;
-    private static final int LIMIT = -3;
-    private static final int MISSING = -4;
-
+final class PromiseTests extends Scenes {
     private PromiseTests() {
     }
 
@@ -36,41 +31,6 @@ final class PromiseTests {
         faultOfForm();
         faultOfCall();
         play();
-    }
-
-    private static void due(String what, long got, long want) {
-        Check.due(what, got, want);
-    }
-
-    private static void type(PledgeTips x, String text) {
-        for (int i = 0; i < text.length(); i++) {
-            x.type(text.charAt(i));
-        }
-    }
-
-    private static void retype(PledgeTips x, String text) {
-        x.clearText();
-        type(x, text);
-    }
-
-    private static void dueFault(String text, PledgeTips x, int position, int reason, int cause) {
-        retype(x, text);
-        due("1/17: fault(0) of " + text, x.fault(0), position);
-        due("1/17: fault(1) of " + text, x.fault(1), reason);
-        due("1/17: fault(2) of " + text, x.fault(2), cause);
-        due("18: play() of " + text, x.play() < 0 ? IMPOSSIBLE : 0, position >= 0 ? IMPOSSIBLE : 0);
-    }
-
-    /** Projects with these goals, and persons with purses of 999. */
-    private static PledgeTips with(int persons, int... goals) {
-        PledgeTips x = new PledgeTips();
-        for (int goal : goals) {
-            x.project(goal);
-        }
-        for (int i = 0; i < persons; i++) {
-            x.person(999);
-        }
-        return x;
     }
 
     private static void newObject() {
@@ -274,16 +234,6 @@ final class PromiseTests {
         due("12: those that stand by their numbers", x.orderAt(1, 11), 11);
         due("all stand", x.count(4), 4095);
         due("6: the goal", x.callIn(0), 12);
-    }
-
-    /** 0 holds 1, 0 and 1 together hold 2, and 2 holds 3; all for project 0, which needs each of them. */
-    private static PledgeTips chain() {
-        PledgeTips x = with(4, 20, 5);
-        x.pledge(0, 0, 5, 0, 0);
-        x.pledge(1, 0, 6, 1, 5);
-        x.pledge(2, 0, 7, 1, 11);
-        x.pledge(3, 0, 2, 3, 2);
-        return x;
     }
 
     private static void withdraw() {
@@ -730,6 +680,7 @@ final class PromiseTests {
             "g-5;", "g5.;", "g5,6;", "w;", "w1,0;", "c0", "h", "p0,0,1,0;", "p0,0,1,0,0", "p0,0,1,0,0,0;",
             "p0,0,,0,0;", "p,0,1,0,0;", "p0;0,1,0,0;", "p0,0,1,0,;", "p0,0,1000,0,0;", "5;", "gg5;", "g5g5;"};
         for (String text : badForms) {
+            x = with(2, 5, 5);
             dueFault(text, x, 0, 1, MISSING);
             dueFault("g5;" + text, x, 3, 1, MISSING);
         }

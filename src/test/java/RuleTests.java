@@ -29,8 +29,10 @@ final class RuleTests {
             members(inner);
         }
         source(Files.readAllLines(program));
-        extremes(new PledgeTips());
-        extremes(filled());
+        for (int number : EXTREMES) {
+            extremes(new PledgeTips(), number);
+            extremes(Scenes.full(), number);
+        }
     }
 
     private static List<Class<?>> classes() {
@@ -101,44 +103,19 @@ final class RuleTests {
         }
     }
 
-    /** Near every limit: 4 projects, one of them closed, 8 persons, 12 pledges, a full text. */
-    private static PledgeTips filled() {
-        PledgeTips x = new PledgeTips();
-        for (int i = 0; i < 4; i++) {
-            x.project(10 + i);
-        }
-        for (int i = 0; i < 8; i++) {
-            x.person(100 * i);
-        }
-        x.pledge(7, 3, 20, 0, 0);
-        x.callIn(3);
-        for (int i = 1; i < 12; i++) {
-            x.pledge(1 + i % 7, i % 3, i, i % 5, i % 5 == 0 ? 0 : i % 5 == 4 ? (i + 1) % 3 : i % 5);
-        }
-        for (int i = 0; i < 80; i++) {
-            x.type("p7,0,1,0,0;w011;".charAt(i % 16));
-        }
-        return x;
-    }
-
     /** Rule 7: none throws; what is not a number or an error is told by the type of the answer alone. */
-    private static void extremes(PledgeTips x) {
-        for (int a : EXTREMES) {
-            for (int b : EXTREMES) {
-                long answers = Math.min(x.pledgeOf(a, b), x.projectOf(a, b));
-                answers = Math.min(answers, Math.min(x.personOf(a, b), x.setOf(a, b)));
-                answers = Math.min(answers, Math.min(x.orderAt(a, b), x.standing(a)));
-                answers = Math.min(answers, Math.min(x.pledge(a, b, 1, 0, 0), x.pledge(0, 0, 1, a, b)));
-                answers = Math.min(answers, Math.min(x.count(a), x.fault(b)));
-                Check.isTrue("rule 7: " + a + ", " + b, answers >= PledgeTips.NOT_FOUND);
-            }
-            x.callIn(a);
-            x.withdraw(a);
-            x.project(a);
-            x.person(a);
-            x.type(a);
-            x.play();
+    private static void extremes(PledgeTips x, int a) {
+        for (int b : EXTREMES) {
+            long answers = Math.min(x.pledgeOf(a, b), x.projectOf(a, b));
+            answers = Math.min(answers, Math.min(x.personOf(a, b), x.setOf(a, b)));
+            answers = Math.min(answers, Math.min(x.orderAt(a, b), x.fault(b)));
+            answers = Math.min(answers, Math.min(x.pledge(a, b, 1, 0, 0), x.pledge(0, 0, 1, a, b)));
+            answers = Math.min(answers, x.pledge(0, 0, b, 0, a));
+            Check.isTrue("rule 7: " + a + ", " + b, answers >= PledgeTips.NOT_FOUND);
         }
+        long answers = Math.min(Math.min(x.standing(a), x.count(a)), Math.min(x.callIn(a), x.withdraw(a)));
+        answers = Math.min(answers, Math.min(Math.min(x.project(a), x.person(a)), Math.min(x.type(a), x.play())));
+        Check.isTrue("rule 7: " + a, answers >= PledgeTips.NOT_FOUND);
         while (x.undo() > 0) {
             Check.isTrue("rule 7: undo", x.count(11) < 4);
         }
