@@ -1,5 +1,6 @@
 /** Promises 2 to 14: arguments at their bounds and beyond them, and which error is returned where several apply. */
 final class ArgumentTests extends Scenes {
+    /** Far beyond most bounds; 32 is for shifts, which take it for 0. */
     private static final int[] FAR = {Integer.MIN_VALUE, -1000, -32, 32, 1000, 65536, Integer.MAX_VALUE};
 
     private ArgumentTests() {
@@ -31,6 +32,7 @@ final class ArgumentTests extends Scenes {
         setOfWhats();
         orderArguments();
         orderPlaces();
+        orderAtTheLastNumbers();
         orderTies();
         countWhats();
         countsAtTheirEnds();
@@ -437,8 +439,7 @@ final class ArgumentTests extends Scenes {
 
     private static void setOfWhats() {
         PledgeTips x = full();
-        int[] sets = {0, 1, 2, 4096, -1};
-        for (int set : sets) {
+        for (int set : new int[] {0, 1, 2, 4096, -1}) {
             due("11: what -1 of " + set, x.setOf(set, -1), INVALID);
             due("11: what 3 of " + set, x.setOf(set, 3), INVALID);
         }
@@ -446,14 +447,14 @@ final class ArgumentTests extends Scenes {
             due("11: what " + what, x.setOf(0, what), INVALID);
         }
         PledgeTips y = chain();
-        int[] sets2 = {1, 2, 3, 4, 8, 12, 13, 14, 15};
+        int[] sets = {1, 2, 3, 4, 8, 12, 13, 14, 15};
         int[] holds = {1, 0, 1, 0, 0, 0, 0, 0, 1};
         int[] fails = {0, 2, 0, 4, 8, 4, 4, 4, 0};
         int[] greatest = {1, 0, 3, 0, 0, 0, 1, 0, 15};
-        for (int i = 0; i < sets2.length; i++) {
-            due("11: what 0 of " + sets2[i], y.setOf(sets2[i], 0), holds[i]);
-            due("11: what 1 of " + sets2[i], y.setOf(sets2[i], 1), fails[i]);
-            due("11: what 2 of " + sets2[i], y.setOf(sets2[i], 2), greatest[i]);
+        for (int i = 0; i < sets.length; i++) {
+            due("11: what 0 of " + sets[i], y.setOf(sets[i], 0), holds[i]);
+            due("11: what 1 of " + sets[i], y.setOf(sets[i], 1), fails[i]);
+            due("11: what 2 of " + sets[i], y.setOf(sets[i], 2), greatest[i]);
         }
     }
 
@@ -491,6 +492,37 @@ final class ArgumentTests extends Scenes {
         for (int place = 0; place < 12; place++) {
             due("12: by projects and persons, place " + place, x.orderAt(2, place),
                     place < 4 ? ofFirst[place] : ofOthers[place - 4]);
+        }
+    }
+
+    /** The greatest numbers of one rank are ahead of the least ones of the next. */
+    private static void orderAtTheLastNumbers() {
+        PledgeTips x = with(8, 5, 5);
+        x.pledge(0, 1, 1, 0, 0);
+        x.pledge(7, 0, 1, 0, 0);
+        due("12: the last person of the first project", x.orderAt(2, 0), 1);
+        due("12: the first person of the next project", x.orderAt(2, 1), 0);
+
+        x = with(8, 5);
+        x.pledge(1, 0, 1, 1, 900);
+        for (int i = 1; i < 11; i++) {
+            x.pledge(0, 0, 1, 0, 0);
+        }
+        x.pledge(2, 0, 1, 3, 1);
+        due("12: the last number in the wave 2", x.orderAt(1, 10), 11);
+        due("12: the first number in the wave 1", x.orderAt(1, 11), 0);
+        due("12: the last one that stands", x.orderAt(1, 9), 10);
+
+        x = with(1, 999, 5);
+        x.pledge(0, 0, 1, 1, 900);
+        for (int i = 1; i < 11; i++) {
+            x.pledge(0, 0, 1, 2, 11 - i);
+        }
+        x.pledge(0, 1, 1, 0, 0);
+        due("13: eleven waves", x.count(5), 11);
+        due("12: the one that stands is ahead of the last wave", x.orderAt(1, 0), 11);
+        for (int place = 1; place < 12; place++) {
+            due("12: later waves first, place " + place, x.orderAt(1, place), 11 - place);
         }
     }
 

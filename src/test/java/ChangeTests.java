@@ -37,6 +37,15 @@ final class ChangeTests extends Scenes {
         return x;
     }
 
+    /** The greatest numbers: project 3 has its goal by the pledges 10 and 11 of the persons 6 and 7. */
+    private static PledgeTips last() {
+        PledgeTips x = with(8, 5, 5, 5, 5);
+        for (int i = 0; i < 12; i++) {
+            x.pledge(Math.max(0, i - 4), i < 10 ? 0 : 3, 3, 0, 0);
+        }
+        return x;
+    }
+
     /** Tells the first answer alone that is not the same. */
     private static void dueSame(String what, String got, String want) {
         String[] answers = got.split(" ");
@@ -176,6 +185,8 @@ final class ChangeTests extends Scenes {
         dueUndone(Scenes::chain, "callIn", x -> x.callIn(0));
         dueUndone(Scenes::chain, "withdraw of one that holds others", x -> x.withdraw(0));
         dueUndone(Scenes::chain, "a pledge that brings others in", x -> x.pledge(0, 1, 5, 0, 0));
+        dueUndone(ChangeTests::last, "callIn of the last ones", x -> x.callIn(3));
+        dueUndone(ChangeTests::last, "withdraw of the last one", x -> x.withdraw(11));
         dueUndone(scene, "play of nothing", x -> {
             x.clearText();
             x.play();

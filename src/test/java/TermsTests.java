@@ -174,6 +174,15 @@ final class TermsTests extends Scenes {
         due("7: one is called", x.pledgeOf(0, 5), 1);
         due("7: one that stands for another project is open", x.pledgeOf(1, 5), 0);
         due("7: one that does not stand is open", x.pledgeOf(2, 5), 0);
+
+        x = with(1, 6, 6);
+        for (int i = 0; i < 12; i++) {
+            x.pledge(0, i % 2, 1, 0, 0);
+        }
+        x.callIn(1);
+        for (int i = 0; i < 12; i++) {
+            due("7: of twelve every second one is called, " + i, x.pledgeOf(i, 5), i % 2);
+        }
     }
 
     /** "The open pledges of a person together are at most the purse." */
@@ -519,6 +528,10 @@ final class TermsTests extends Scenes {
         due("4: it may be a value", x.pledge(0, 1, 5, 4, 0), 2);
         due("6: not called in twice", x.callIn(0), IMPOSSIBLE);
         due("6: the other one", x.callIn(1), 5);
+        due("8: the first one is closed still", x.projectOf(0, 4), 1);
+        due("8: so is the second one", x.projectOf(1, 4), 1);
+        due("6: the first one is not called in again", x.callIn(0), IMPOSSIBLE);
+        due("4: nothing for the first one", x.pledge(0, 0, 1, 0, 0), IMPOSSIBLE);
         x.undo();
         x.undo();
         x.undo();
@@ -564,8 +577,22 @@ final class TermsTests extends Scenes {
         due("8: not the one behind it", x.projectOf(0, 7), 0);
         x.withdraw(0);
         due("8: now the one behind it", x.projectOf(0, 7), 1);
-        x.withdraw(11);
-        due("5: number 11 was not there", x.count(9), 4);
+        x.pledge(0, 0, 1, 0, 0);
+        x.withdraw(9);
+        due("8: a smaller number behind a greater one", x.projectOf(0, 7), 0);
+        due("8: all ten are needed", x.projectOf(0, 8), 1535);
+
+        x = with(2, 12, 5);
+        for (int i = 0; i < 12; i++) {
+            x.pledge(0, 0, 1, 0, 0);
+        }
+        due("8: the last of twelve", x.projectOf(0, 7), 11);
+        due("8: all twelve are needed", x.projectOf(0, 8), 4095);
+        x.withdraw(0);
+        x.pledge(1, 1, 5, 0, 0);
+        x.withdraw(1);
+        x.pledge(0, 0, 2, 0, 0);
+        due("8: number 11 is one of those ahead of the tip", x.projectOf(0, 7), 1);
     }
 
     /** "(called ones count from their turns on)". */
@@ -624,6 +651,9 @@ final class TermsTests extends Scenes {
         x.pledge(0, 0, 19, 2, 1);
         due("8: it is one of many for kind 2", x.projectOf(0, 9), 1);
         x.withdraw(0);
+        x.pledge(0, 0, 20, 2, 1);
+        due("8: where any amount would do, it is the least amount there is", x.projectOf(0, 9), 1);
+        x.withdraw(0);
         x.pledge(0, 0, 19, 2, 2);
         due("8: it is one alone for kind 2", x.projectOf(0, 9), 20);
         x.withdraw(0);
@@ -639,6 +669,15 @@ final class TermsTests extends Scenes {
         x.pledge(2, 1, 5, 4, 0);
         due("8: both goals at once", x.projectOf(0, 9), 3);
         due("8: those that stand are as before", x.count(4), 0);
-        due("8: it is not made", x.count(8), 15);
+        due("8: it is not made", x.count(8), 16);
+
+        x = with(4, 10, 8);
+        x.pledge(0, 0, 9, 3, 1);
+        x.pledge(1, 1, 7, 1, 500);
+        due("8: those that fall are no help", x.projectOf(0, 9), 10);
+        x.pledge(2, 1, 8, 0, 0);
+        x.callIn(1);
+        x.pledge(3, 0, 4, 3, 2);
+        due("8: called ones are members", x.projectOf(0, 9), 6);
     }
 }
