@@ -23,6 +23,7 @@ final class ChangeTests extends Scenes {
         refusedWhenFull();
         refusedTexts();
         tellingChangesNothing();
+        objectsApart();
     }
 
     /** Two projects, of which number 0 is closed, three persons, three pledges, four states and a text with a fault. */
@@ -349,6 +350,36 @@ final class ChangeTests extends Scenes {
                     x.fault(asked);
                 });
             }
+        }
+    }
+
+    /** "Creates a place": each object is one of its own, whatever is called of others in between. */
+    private static void objectsApart() {
+        PledgeTips[] mixed = {new PledgeTips(), new PledgeTips()};
+        PledgeTips[] alone = {new PledgeTips(), new PledgeTips()};
+        for (int step = 0; step < 14; step++) {
+            callOfStep(mixed[0], step, 0);
+            callOfStep(mixed[1], step, 1);
+        }
+        for (int i = 0; i < 2; i++) {
+            for (int step = 0; step < 14; step++) {
+                callOfStep(alone[i], step, i);
+            }
+            dueSame("1: object " + i + " among others", told(mixed[i]), told(alone[i]));
+        }
+    }
+
+    /** The two objects have other goals, purses, amounts, kinds and texts. */
+    private static void callOfStep(PledgeTips x, int step, int object) {
+        switch (step) {
+            case 0, 1 -> x.project(10 + 5 * object);
+            case 2, 3, 4 -> x.person(40 - 10 * object);
+            case 5, 6, 7 -> x.pledge(step - 5, object, 9, object, object);
+            case 8, 9 -> x.pledge(step - 8, 1 - object, 7 + object, 3, 2);
+            case 10 -> type(x, object == 0 ? "w1;h5" : "w0;c1;");
+            case 11 -> x.callIn(object);
+            case 12 -> x.play();
+            default -> x.undo();
         }
     }
 }

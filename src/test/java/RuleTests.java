@@ -77,6 +77,7 @@ final class RuleTests {
             boolean isStatic = Modifier.isStatic(field.getModifiers());
             fields += isStatic ? 0 : 1;
             Check.isTrue("rule 5: final " + field, !isStatic || Modifier.isFinal(field.getModifiers()));
+            Check.isTrue("rule 5: a number " + field, !isStatic || field.getType().isPrimitive());
         }
         Check.isTrue("rule 11: fields of " + inner, fields <= 20);
         for (Method method : inner.getDeclaredMethods()) {
